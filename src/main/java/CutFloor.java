@@ -271,11 +271,19 @@ public final class CutFloor {
     }
 
     public int value(int cls) {
-        return within(cls, 0, CLASSES - 1) && hasPlan() ? planner.valueOf(cls) : NONE;
+        if (!within(cls, 0, CLASSES - 1) || !hasPlan()) {
+            return NONE;
+        }
+        int then = planner.bestWith(cls, 1);
+        return then == NONE ? NONE : then - planner.bestNow();
     }
 
     public int shorts(int cls) {
-        return within(cls, 0, CLASSES - 1) && hasPlan() ? planner.lossWithout(cls) : NOTHING;
+        if (!within(cls, 0, CLASSES - 1) || !hasPlan()) {
+            return NOTHING;
+        }
+        int then = planner.bestWith(cls, -1);
+        return then == NONE ? NOTHING : planner.bestNow() - then;
     }
 
     public int worth(int part) {
@@ -562,7 +570,7 @@ public final class CutFloor {
 
     private boolean hasPlan() {
         planner.renewCuttings();
-        return planner.bestNow() != NONE;
+        return planner.bestFor(hall.many[0], hall.many[1], hall.many[2]) != NONE;
     }
 
     private boolean isThere(int cls, int cutting, int part) {
@@ -965,12 +973,18 @@ public final class CutFloor {
             }
             if (isNumber(0, MOST_NUMBER)) {
                 target.addStep(Tree.PUSH, number);
+            } else if (isWord("class")) {
+                target.addStep(Tree.LOOK, Asker.CLASS_FACT);
+            } else if (isWord("part")) {
+                target.addStep(Tree.LOOK, Asker.PART_FACT);
+            } else if (isWord("way")) {
+                target.addStep(Tree.LOOK, Asker.WAY_FACT);
+            } else if (isWord("day")) {
+                target.addStep(Tree.LOOK, Asker.DAY_FACT);
+            } else if (isWord("weight")) {
+                target.addStep(Tree.LOOK, Asker.WEIGHT_FACT);
             } else {
-                int fact = factNamed();
-                if (fact == NONE) {
-                    return false;
-                }
-                target.addStep(Tree.LOOK, fact);
+                return false;
             }
             factors++;
             goOn();
@@ -987,22 +1001,6 @@ public final class CutFloor {
             }
             goOn();
             return true;
-        }
-
-        private int factNamed() {
-            if (isWord("class")) {
-                return Asker.CLASS_FACT;
-            }
-            if (isWord("part")) {
-                return Asker.PART_FACT;
-            }
-            if (isWord("way")) {
-                return Asker.WAY_FACT;
-            }
-            if (isWord("day")) {
-                return Asker.DAY_FACT;
-            }
-            return isWord("weight") ? Asker.WEIGHT_FACT : NONE;
         }
 
         private boolean isWord(String word) {
@@ -1022,7 +1020,7 @@ public final class CutFloor {
         }
 
         private boolean isNumber(int least, int most) {
-            return kind == NUMBER && within(number, least, most);
+            return kind == NUMBER && number >= least && number <= most;
         }
 
         /** Goes on to the next TOKEN. */
@@ -1580,12 +1578,19 @@ public final class CutFloor {
             }
         }
 
+        /** To be asked where there is a PLAN, as are the calls below that look for the FIRST and beyond. */
         int bestNow() {
-            return bestFor(hall.many[0], hall.many[1], hall.many[2]);
+            return bests[spot(hall.many[0], hall.many[1], hall.many[2])];
         }
 
         int plansNow() {
             return bestCounts[spot(hall.many[0], hall.many[1], hall.many[2])];
+        }
+
+        /** As bestFor, with a carcass of a CLASS more or fewer. */
+        int bestWith(int cls, int more) {
+            return bestFor(hall.many[0] + (cls == 0 ? more : 0), hall.many[1] + (cls == 1 ? more : 0),
+                    hall.many[2] + (cls == 2 ? more : 0));
         }
 
         /** What BEST brings with so many carcasses of the CLASSES; NONE if there is no PLAN. */
@@ -1643,12 +1648,11 @@ public final class CutFloor {
             return all;
         }
 
-        /** To be called where BEST is known. */
         void findFirst() {
             if (!firstStale) {
                 return;
             }
-            int due = bests[spot(hall.many[0], hall.many[1], hall.many[2])] * Offers.SCALE;
+            int due = bestNow() * Offers.SCALE;
             loadOffers();
             int all = layOut(hall.many[0], hall.many[1], hall.many[2]);
             layers.follow(classRow, all - 1);
@@ -1683,21 +1687,6 @@ public final class CutFloor {
                 many += cuttings[hall.classOf(i)].lefts[first[i] * PARTS + part];
             }
             return many;
-        }
-
-        int valueOf(int cls) {
-            int then = bestWith(cls, 1);
-            return then == NONE ? NONE : then - bestNow();
-        }
-
-        int lossWithout(int cls) {
-            int then = bestWith(cls, -1);
-            return then == NONE ? NOTHING : bestNow() - then;
-        }
-
-        private int bestWith(int cls, int more) {
-            return bestFor(hall.many[0] + (cls == 0 ? more : 0), hall.many[1] + (cls == 1 ? more : 0),
-                    hall.many[2] + (cls == 2 ? more : 0));
         }
 
         int worthOf(int part) {
