@@ -50,7 +50,6 @@ public final class CutFloor {
 
     private final Hall hall = new Hall();
     private final Hall[] images = new Hall[IMAGES];
-    private final Reader reader = new Reader();
     private final Asker asker = new Asker(hall);
     private final Planner planner = new Planner(hall, asker);
     private final Crew crew = new Crew(hall, asker, planner);
@@ -61,6 +60,7 @@ public final class CutFloor {
     private final int[] latestWeek = new int[DAYS * CLASSES];
     private final int[] refusals = new int[5];
     private Tree spareTree = new Tree();
+    private final Reader reader = new Reader(spareTree, tape);
     private int tapeLength = 0;
     private int treesRead = 0;
     private int faultAt = NONE;
@@ -176,7 +176,7 @@ public final class CutFloor {
 
     public int tree() {
         Tree read = spareTree;
-        faultAt = reader.readTree(tape, tapeLength, read);
+        faultAt = reader.readTree(tapeLength, read);
         tapeLength = 0;
         if (faultAt != NONE) {
             return refuse(UNREADABLE);
@@ -755,8 +755,8 @@ public final class CutFloor {
         private static final int MOST_NUMBER = 1000;
         private static final int TOO_GREAT = 100_000;
 
-        private Tree target = null;
-        private int[] text = new int[0];
+        private final int[] text;
+        private Tree target;
         private int length = 0;
         private int kind = END;
         private int tokenFrom = 0;
@@ -764,10 +764,14 @@ public final class CutFloor {
         private int number = 0;
         private int factors = 0;
 
-        /** NONE, or where the FAULT is; the target is then of no use. */
-        int readTree(int[] tape, int tapeLength, Tree into) {
+        Reader(Tree into, int[] tape) {
+            target = into;
             text = tape;
-            length = Math.min(tapeLength, tape.length);
+        }
+
+        /** NONE, or where the FAULT is; what was read is then of no use. */
+        int readTree(int tapeLength, Tree into) {
+            length = Math.min(tapeLength, text.length);
             target = into;
             target.clear();
             tokenTo = 0;
@@ -1526,10 +1530,12 @@ public final class CutFloor {
         private final Layers layers = new Layers(offers);
         private final int[] bests = new int[SIDE * SIDE * SIDE];
         private final int[] bestCounts = new int[SIDE * SIDE * SIDE];
+        private final int[] bestEpochs = new int[SIDE * SIDE * SIDE];
         private final int[] classRow = new int[CARCASSES];
         private final int[] first = new int[CARCASSES];
         private final int[] changes = new int[CLASSES];
         private final int[] othersBring = new int[CLASSES];
+        private int epoch = 1;
         private boolean waysStale = true;
         private boolean offersStale = true;
         private boolean firstStale = true;
@@ -1540,17 +1546,17 @@ public final class CutFloor {
             for (int cls = 0; cls < CLASSES; cls++) {
                 cuttings[cls] = new Cuttings();
             }
-            Arrays.fill(bests, NONE);
         }
 
         void forgetWays() {
             waysStale = true;
         }
 
+        /** What was reckoned in an earlier epoch no longer counts. */
         void forgetPlans() {
             offersStale = true;
             firstStale = true;
-            Arrays.fill(bests, NONE);
+            epoch++;
         }
 
         void forgetFirst() {
@@ -1600,9 +1606,10 @@ public final class CutFloor {
                 return NONE;
             }
             int spot = spot(a, b, c);
-            if (bests[spot] == NONE) {
+            if (bestEpochs[spot] != epoch) {
                 loadOffers();
                 solve(a, b, c);
+                bestEpochs[spot] = epoch;
                 bests[spot] = layers.best / Offers.SCALE;
                 bestCounts[spot] = layers.bestCount;
             }
