@@ -209,6 +209,7 @@ public final class PromisesTest {
         readable("cut0to9 9", 1);
         readable("cut 8 to 1 9 and 1 9;minutes 3;skill 2", 3);
         readable("minutes[[[[[[[[1]]]]]]]]", 1);
+        readable("skill[[[[[[[[1]]]]]]]]", 1);
         readable("minutes 1 if not not not 1<2", 1);
         readable("minutes 1 if((((((((1<2))))))))", 1);
         readable("minutes 1 if(((([[[[1]]]]=day))))", 1);
@@ -226,6 +227,12 @@ public final class PromisesTest {
         faulty("   ", 3);
         faulty("Cut 0 to 1 1", 0);
         faulty("cutt 0 to 1 1", 0);
+        faulty("cutz 0 to 1 1", 0);
+        faulty("acut 0 to 1 1", 0);
+        faulty("cut` 0 to 1 1", 3);
+        faulty("cut{ 0 to 1 1", 3);
+        faulty("cut 0: to 1 1", 5);
+        faulty("cut /0 to 1 1", 4);
         faulty("cut 10 to 1 1", 4);
         faulty("cut a to 1 1", 4);
         faulty("cut 0 too 1 1", 6);
@@ -506,6 +513,7 @@ public final class PromisesTest {
         promise = 22;
         due("worth below 0", x.worth(1), 26 - 202);
         noPlan();
+        justSixtyFour();
         counted();
         limits();
     }
@@ -550,6 +558,27 @@ public final class PromisesTest {
         due("now there is", x.week(1), 0);
         promise = 17;
         due("now there is", x.best(1), 1);
+    }
+
+    /** Sixty-four cuttings are a plan's, one more are not, in every class alike. */
+    private static void justSixtyFour() {
+        promise = 17;
+        for (int cls = 0; cls < 3; cls++) {
+            CutFloor x = hall(times("cut 0 to 1 1;", 7) + times("cut 1 to 1 2;", 8) + "cut 2 to 1 3 if day=1");
+            x.put(2, 1, 3);
+            x.carcasses(cls, 2);
+            due("64 cuttings", x.cuttings(cls), 64);
+            due("brings", x.best(0), 6);
+            due("plans", x.best(1), 56 * 56);
+            due("the first", x.plan(0), 2);
+            x.terms(0, 1);
+            due("65 cuttings", x.best(0), NONE);
+            x.carcasses(cls, 0);
+            due("none of it", x.best(0), 0);
+            due("with one of it", x.value(cls), NONE);
+            x.terms(0, 0);
+            due("64 again", x.value(cls), 3);
+        }
     }
 
     private static void counted() {
@@ -759,6 +788,27 @@ public final class PromisesTest {
         promise = 27;
         due("more than ten", z.share(NONE), NONE);
         due("more than ten", z.share(0), NONE);
+        // nine ways of class 0, one of class 1, one of class 2
+        CutFloor e = hall("cut 0 to 2 1;cut 1 to 1 2;cut 2 to 1 3;cut 3 to 1 4;cut 4 to 1 5;cut 5 to 1 6;cut 6 to 1 7;cut 7 to 1 8;cut 8 to 1 9;"
+                + "cut 0 to 5 9 if class=1;cut 0 to 6 9 if class=2");
+        e.put(9, 1, 1);
+        e.man(15);
+        e.carcasses(0, 1);
+        e.carcasses(1, 1);
+        due("just ten", e.share(NONE), 18);
+        e.carcasses(2, 1);
+        due("just eleven", e.share(NONE), NONE);
+        due("just eleven", e.share(0), NONE);
+        promise = 26;
+        due("just eleven", e.task(NONE), 19);
+        CutFloor s = hall(times("cut 0 to 1 1;", 15) + "cut 0 to 1 1");
+        due("way 15", s.task(15), 0);
+        due("way 16", s.task(16), NONE);
+        due("way 17", s.task(17), NONE);
+        promise = 27;
+        due("way 15", s.share(15), NONE);
+        due("way 16", s.share(16), NONE);
+        due("way 17", s.share(17), NONE);
     }
 
     private static void boxes() {
@@ -847,6 +897,12 @@ public final class PromisesTest {
         due("from 0", x.mix(0, 10, 0, 2), NONE);
         due("to 1585", x.mix(1, 1585, 0, 2), NONE);
         due("from 1585", x.mix(1585, 1585, 0, 2), NONE);
+        due("from 1585", x.mix(1585, 1584, 0, 2), NONE);
+        due("to 1", x.mix(1, 1, 0, 2), 0);
+        due("to 5", x.mix(1, 5, 0, 2), 1);
+        due("to 10", x.mix(1, 10, 0, 2), 2);
+        due("from 6", x.mix(6, 10, 0, 2), 1);
+        due("lean 51", x.mix(6, 10, 51, 2), 0);
         due("to 0", x.mix(1, 0, 0, 2), NONE);
         due("lean 101", x.mix(1, 10, 101, 2), NONE);
         due("lean -1", x.mix(1, 10, -1, 2), NONE);
@@ -859,6 +915,14 @@ public final class PromisesTest {
         due("sent ones are not there", x.mix(10, 10, 50, 1), 8);
         x.again(0);
         due("there again", x.mix(10, 10, 50, 1), 1);
+        CutFloor z = new CutFloor();
+        for (int i = 0; i < 8; i++) z.box(50, 20, 0, 0, 0, 0);
+        z.box(7, 30, 0, 0, 0, 0);
+        z.box(1, 30, 0, 0, 0, 0);
+        due("the ninth", z.mix(7, 7, 30, 1), 256);
+        due("the tenth", z.mix(1, 1, 0, 1), 512);
+        due("the ninth and the tenth", z.mix(8, 8, 30, 1), 768);
+        due("the first and the tenth", z.mix(51, 51, 0, 1), 513);
         CutFloor y = new CutFloor();
         for (int i = 0; i < 16; i++) y.box(99, 100, 0, 0, 0, 0);
         due("all", y.mix(1584, 1584, 100, 1), 65535);
@@ -958,6 +1022,8 @@ public final class PromisesTest {
         due("no room", x.yields(0, 0), -5);
         due("a number first", x.yields(1000, 0), -1);
         due("count", x.count(6), 40);
+        promise = 37;
+        due("of forty", x.drift(0, 0, 1), 1001);
     }
 
     private static void week() {
@@ -1087,6 +1153,20 @@ public final class PromisesTest {
         x.carcasses(0, 0);
         due("kept anew", x.back(1), 0);
         due("carcasses", x.count(0), 1);
+        CutFloor y = new CutFloor();
+        y.image(0);
+        y.yields(9, 2);
+        y.man(5);
+        y.box(9, 9, 9, 2, 9, 9);
+        y.image(1);
+        y.back(0);
+        y.yields(9, 8);
+        y.man(6);
+        y.box(8, 8, 8, 1, 8, 8);
+        due("what was overwritten", y.back(1), 0);
+        due("a yield", y.drift(0, 0, 1), 7);
+        due("a man", y.skills(0, 0), 5);
+        for (int what = 0; what < 6; what++) due("a box", y.of(0, what), what == 3 ? 2 : 9);
     }
 
     private static void counts() {
