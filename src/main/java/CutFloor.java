@@ -1264,6 +1264,8 @@ public final class CutFloor {
         private final int[] lowest = new int[CLASSES * CUTTINGS];
         private final int[] groupOf = new int[CLASSES * CUTTINGS];
         private final int[] groups = new int[CLASSES];
+        /** By CLASS what one carcass more can bring at most. */
+        private final int[] tops = new int[CLASSES];
         private final int[] rated = new int[ORDERS];
         private final int[] caps = new int[ORDERS];
         private final int[] strides = new int[ORDERS];
@@ -1300,6 +1302,7 @@ public final class CutFloor {
             spread(4, NONE, topPlaces, topBonuses);
             for (int cls = 0; cls < CLASSES; cls++) {
                 groups[cls] = 0;
+                tops[cls] = 0;
                 if (cuttings[cls].many <= CUTTINGS) {
                     group(hall, cls, cuttings[cls]);
                 }
@@ -1349,6 +1352,7 @@ public final class CutFloor {
             for (int cutting = 0; cutting < cuttings.many; cutting++) {
                 int fill = fillOf(cuttings, cutting);
                 int gain = gainOf(hall, cuttings, cutting);
+                tops[cls] = Math.max(tops[cls], gain + mostBonus(fill));
                 int at = base;
                 int behind = base + groups[cls];
                 while (at < behind && fills[at] != fill) {
@@ -1376,6 +1380,14 @@ public final class CutFloor {
                 fill |= Math.min(n, caps[field]) << FIELD * field;
             }
             return fill;
+        }
+
+        private int mostBonus(int fill) {
+            int most = 0;
+            for (int field = 0; field < ratedCount; field++) {
+                most += Math.max(0, bonuses[field]) * (fill >>> FIELD * field & FULL);
+            }
+            return most;
         }
 
         private static int gainOf(Hall hall, Cuttings cuttings, int cutting) {
@@ -1439,33 +1451,13 @@ public final class CutFloor {
             if (depth >= CARCASSES) {
                 return;
             }
-            int firstGroup = cls * CUTTINGS;
-            int behindGroups = firstGroup + offers.groups[cls];
             int behind = starts[depth + 1];
             int end = behind;
             for (int from = starts[depth]; from < behind; from++) {
                 if (fillings.length - end < CUTTINGS) {
                     grow();
                 }
-                for (int group = firstGroup; group < behindGroups; group++) {
-                    int filling = Offers.join(fillings[from], offers.fills[group]);
-                    int score = scores[from] + offers.gains[group] + (group == favoured ? 1 : 0);
-                    int place = offers.placeOf(filling);
-                    int at = slots[place] - 1;
-                    if (at < 0) {
-                        at = end;
-                        end++;
-                        slots[place] = end;
-                        fillings[at] = filling;
-                        scores[at] = score;
-                        counts[at] = together(0, counts[from], offers.alike[group]);
-                    } else if (score > scores[at]) {
-                        scores[at] = score;
-                        counts[at] = together(0, counts[from], offers.alike[group]);
-                    } else if (score == scores[at]) {
-                        counts[at] = together(counts[at], counts[from], offers.alike[group]);
-                    }
-                }
+                end = extend(from, cls, favoured, end);
             }
             for (int at = behind; at < end; at++) {
                 slots[offers.placeOf(fillings[at])] = 0;
@@ -1475,17 +1467,51 @@ public final class CutFloor {
             starts[depth + 1] = end;
         }
 
+        /** What one filling becomes by each group; answers where the layer ends then. There must be room. */
+        private int extend(int from, int cls, int favoured, int layerEnd) {
+            int[] fills = offers.fills;
+            int[] gains = offers.gains;
+            int before = fillings[from];
+            int scored = scores[from];
+            int end = layerEnd;
+            int behindGroups = cls * CUTTINGS + offers.groups[cls];
+            for (int group = cls * CUTTINGS; group < behindGroups; group++) {
+                int filling = Offers.join(before, fills[group]);
+                int score = scored + gains[group] + (group == favoured ? 1 : 0);
+                int place = offers.placeOf(filling);
+                int at = slots[place] - 1;
+                if (at < 0) {
+                    at = end;
+                    end++;
+                    slots[place] = end;
+                    fillings[at] = filling;
+                    scores[at] = score;
+                    counts[at] = together(0, counts[from], offers.alike[group]);
+                } else if (score > scores[at]) {
+                    scores[at] = score;
+                    counts[at] = together(0, counts[from], offers.alike[group]);
+                } else if (score == scores[at]) {
+                    counts[at] = together(counts[at], counts[from], offers.alike[group]);
+                }
+            }
+            return end;
+        }
+
         /** The last carcass of all needs no layer: what its groups bring is all that is asked. */
         void finish(int cls, int favoured) {
             int firstGroup = cls * CUTTINGS;
             int behindGroups = firstGroup + offers.groups[cls];
+            int most = offers.tops[cls] + 1;
             best = NONE;
             bestCount = 0;
             for (int from = starts[depth]; from < starts[depth + 1]; from++) {
+                int before = fillings[from];
+                if (scores[from] + offers.bonusOf(before) + most < best) {
+                    continue;
+                }
                 for (int group = firstGroup; group < behindGroups; group++) {
-                    int filling = Offers.join(fillings[from], offers.fills[group]);
-                    int score = scores[from] + offers.gains[group] + offers.bonusOf(filling)
-                            + (group == favoured ? 1 : 0);
+                    int score = scores[from] + offers.gains[group] + (group == favoured ? 1 : 0)
+                            + offers.bonusOf(Offers.join(before, offers.fills[group]));
                     if (score > best) {
                         best = score;
                         bestCount = together(0, counts[from], offers.alike[group]);
@@ -1703,6 +1729,9 @@ public final class CutFloor {
             if (order >= MOST_ORDERED || order == 0 && hall.ordersAboveZero() >= ORDERS) {
                 return NONE;
             }
+            if (hall.market[PRICE * PARTS + part] == hall.market[OVER * PARTS + part] || order >= mostOf(part)) {
+                return 0;
+            }
             hall.market[at] = order + 1;
             offersStale = true;
             loadOffers();
@@ -1710,6 +1739,19 @@ public final class CutFloor {
             hall.market[at] = order;
             offersStale = true;
             return layers.best / Offers.SCALE - now;
+        }
+
+        /** How many of a PART there can be at all: an ORDER of as many has no WORTH. */
+        private int mostOf(int part) {
+            int most = 0;
+            for (int cls = 0; cls < CLASSES; cls++) {
+                int mostOfOne = 0;
+                for (int i = 0; i < cuttings[cls].many && i < CUTTINGS; i++) {
+                    mostOfOne = Math.max(mostOfOne, cuttings[cls].lefts[i * PARTS + part]);
+                }
+                most += hall.many[cls] * mostOfOne;
+            }
+            return most;
         }
 
         /** As for BEST, but who keeps his CUTTING scores one more: too little to weigh against what is brought. */
