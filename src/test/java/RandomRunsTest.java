@@ -10,6 +10,8 @@ public final class RandomRunsTest {
     private static final Map<String, Method> REAL = methods(CutFloor.class);
     private static final Map<String, Method> DUE = methods(Oracle.class);
 
+    private static final int NONE = -1;
+
     private final Random random;
     private final CutFloor real = new CutFloor();
     private final Oracle due = new Oracle();
@@ -261,6 +263,41 @@ public final class RandomRunsTest {
         for (int i = 0; i < 4; i++) call("man", random.nextInt(3) == 0 ? 15 : upTo(15) | 1);
     }
 
+    /** Many cuttings, many carcasses, five orders: few calls, each of them dear. */
+    private boolean dearRun() {
+        StringBuilder b = new StringBuilder();
+        int n = 4 + random.nextInt(9);
+        for (int i = 0; i < n; i++) {
+            int part = i < 1 + random.nextInt(4) ? 0 : random.nextInt(6);
+            StringBuilder c = new StringBuilder("cut " + part + " to ");
+            int kinds = 1 + random.nextInt(4);
+            for (int j = 0; j < kinds; j++) {
+                c.append(j > 0 ? " and " : "").append(1 + random.nextInt(2)).append(' ').append(part + 1 + random.nextInt(9 - part));
+            }
+            if (random.nextInt(5) == 0) c.append(" if class<").append(1 + random.nextInt(2));
+            if (b.length() + c.length() > 390) break;
+            b.append(i > 0 ? ";" : "").append(c);
+        }
+        feedText(b.toString());
+        call("tree");
+        richStart();
+        for (int i = 0; i < 4; i++) call("carcasses", random.nextInt(3), 1 + upTo(3));
+        for (int i = 0; i < 30 && !wrong; i++) {
+            if (random.nextInt(6) == 0) call("put", random.nextInt(10), random.nextInt(3), upTo(8));
+            if (random.nextInt(10) == 0) call("carcasses", random.nextInt(3), upTo(4));
+            askPlan();
+        }
+        call("best", 0);
+        call("best", 1);
+        for (int i = 0; i < 8; i++) call("plan", i);
+        for (int cls = 0; cls < 3; cls++) {
+            call("change", cls, 0);
+            call("change", cls, 1);
+        }
+        call("share", NONE);
+        return !wrong;
+    }
+
     private boolean run() {
         readTree();
         if (random.nextInt(3) > 0) richStart();
@@ -275,11 +312,11 @@ public final class RandomRunsTest {
 
     public static void main(String[] args) {
         long from = args.length > 0 ? Long.parseLong(args[0]) : 1;
-        long runs = args.length > 1 ? Long.parseLong(args[1]) : 400;
+        long runs = args.length > 1 ? Long.parseLong(args[1]) : 1500;
         List<Long> bad = java.util.Collections.synchronizedList(new ArrayList<>());
         java.util.stream.LongStream.range(from, from + runs).parallel().forEach(seed -> {
             RandomRunsTest test = new RandomRunsTest(seed);
-            if (!test.run()) {
+            if (!(seed % 8 == 0 ? test.dearRun() : test.run())) {
                 bad.add(seed);
                 if (bad.size() <= 3) {
                     synchronized (bad) {

@@ -22,7 +22,8 @@ public final class RoomTest {
 
     private static final String DEAR = "cut 0 to 1 5;cut 0 to 2 2 and 2 3 and 1 1 and 1 1;cut 0 to 4 4 and 2 3 and 1 3 and 1 8;"
             + "cut 0 to 2 1 and 1 3 and 1 1 and 2 6;cut 1 to 1 7;cut 0 to 1 2 and 2 4;cut 2 to 1 9 and 2 4 and 2 4 and 1 3 and 1 5;"
-            + "cut 2 to 2 4 and 1 7;cut 2 to 1 7 and 2 6 and 1 5 and 4 3;cut 1 to 2 8 and 4 4 and 1 3 and 1 5 and 1 6";
+            + "cut 2 to 2 4 and 1 7;cut 2 to 1 7 and 2 6 and 1 5 and 4 3;cut 1 to 2 8 and 4 4 and 1 3 and 1 5 and 1 6;"
+            + "cut 3 to 2 6 and 1 6 and 2 4 and 1 4;cut 1 to 2 4 and 2 6 and 1 3 and 1 9";
 
     private static void dearRun() {
         Random random = new Random(7);
@@ -36,7 +37,7 @@ public final class RoomTest {
             x.put(part, 0, 50 + 7 * part);
             x.put(part, 1, part);
         }
-        for (int part = 1; part < 6; part++) x.put(part, 2, 8);
+        for (int part : new int[] {1, 2, 3, 5, 7}) x.put(part, 2, 8);
         for (int i = 0; i < 16; i++) x.box(1 + random.nextInt(99), random.nextInt(101), i, 0, 0, 1);
         for (int i = 0; i < 35; i++) {
             x.put(random.nextInt(10), 0, random.nextInt(999));
