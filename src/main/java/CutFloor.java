@@ -1193,35 +1193,29 @@ public final class CutFloor {
             many = 0;
             Arrays.fill(coming, 0);
             coming[0] = 1;
-            choose(tree, 0, 1);
+            choose(this, tree, 0, 1);
             return true;
         }
 
         /** Whatever is cut gives one piece at least, so inAll never falls again: too many now is too many at the end. */
-        private void choose(Tree tree, int part, int inAll) {
-            if (many > CUTTINGS) {
+        private static void choose(Cuttings row, Tree tree, int part, int inAll) {
+            if (row.many > CUTTINGS) {
                 return;
             }
             if (part >= PARTS) {
-                keep();
+                row.keep();
                 return;
             }
-            int here = coming[part];
-            chosen[part] = NONE;
-            choose(tree, part + 1, inAll);
-            if (here == 0) {
-                return;
-            }
-            for (int way = 0; way < tree.wayCount; way++) {
-                if (tree.wayParts[way] != part || (open >> way & 1) == 0) {
-                    continue;
-                }
+            int here = row.coming[part];
+            row.chosen[part] = NONE;
+            choose(row, tree, part + 1, inAll);
+            for (int way = 0; way < tree.wayCount && here > 0; way++) {
                 int then = inAll + here * (tree.piecesInAll(way) - 1);
-                if (then <= MOST_LEFT) {
-                    chosen[part] = way;
-                    bring(tree, way, here);
-                    choose(tree, part + 1, then);
-                    bring(tree, way, -here);
+                if (tree.wayParts[way] == part && (row.open >> way & 1) == 1 && then <= MOST_LEFT) {
+                    row.chosen[part] = way;
+                    row.bring(tree, way, here);
+                    choose(row, tree, part + 1, then);
+                    row.bring(tree, way, -here);
                 }
             }
         }
@@ -1917,7 +1911,7 @@ public final class CutFloor {
             limit = minutesInAll + 1;
             enough = hall.men == 0 ? 0 : (minutesInAll + hall.men - 1) / hall.men;
             sortTasks(true);
-            tryTasks(0, 0);
+            tryTasks(this, 0, 0);
             if (limit > minutesInAll) {
                 return;
             }
@@ -1925,7 +1919,7 @@ public final class CutFloor {
             limit = longest + 1;
             enough = longest;
             sortTasks(false);
-            tryTasks(0, 0);
+            tryTasks(this, 0, 0);
         }
 
         private void sortTasks(boolean greatestFirst) {
@@ -1945,26 +1939,34 @@ public final class CutFloor {
         }
 
         /** Only a longest below the limit is looked for; none below what is enough. */
-        private void tryTasks(int at, int longestSoFar) {
-            if (longestSoFar >= limit || limit <= enough) {
+        private static void tryTasks(Crew crew, int at, int longestSoFar) {
+            if (longestSoFar >= crew.limit || crew.limit <= crew.enough) {
                 return;
             }
-            if (at >= taskCount) {
-                limit = longestSoFar;
-                for (int i = 0; i < taskCount; i++) {
-                    menOfWays[tasks[i]] = tried[i];
-                }
+            if (at >= crew.taskCount) {
+                crew.keepTried(longestSoFar);
                 return;
             }
-            int way = tasks[at];
-            for (int man = 0; man < hall.men; man++) {
-                if ((hall.menSkills[man] >> skillNeeded[way] & 1) == 1 && !isLikeEarlier(man)) {
-                    tried[at] = man;
-                    loads[man] += minutes[way];
-                    tryTasks(at + 1, Math.max(longestSoFar, loads[man]));
-                    loads[man] -= minutes[way];
+            int way = crew.tasks[at];
+            for (int man = 0; man < crew.hall.men; man++) {
+                if (crew.canDo(man, way) && !crew.isLikeEarlier(man)) {
+                    crew.tried[at] = man;
+                    crew.loads[man] += crew.minutes[way];
+                    tryTasks(crew, at + 1, Math.max(longestSoFar, crew.loads[man]));
+                    crew.loads[man] -= crew.minutes[way];
                 }
             }
+        }
+
+        private void keepTried(int longestOfThem) {
+            limit = longestOfThem;
+            for (int i = 0; i < taskCount; i++) {
+                menOfWays[tasks[i]] = tried[i];
+            }
+        }
+
+        private boolean canDo(int man, int way) {
+            return (hall.menSkills[man] >> skillNeeded[way] & 1) == 1;
         }
 
         /** What one of two alike men can't do better, the other can't either. */
