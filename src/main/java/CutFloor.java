@@ -1248,6 +1248,7 @@ public final class CutFloor {
         private static final int FULL = 15;
         private static final int FULL_ALL = 0xF7BDEF;
         private static final int SPILL_ALL = 0x1084210;
+        private static final int SINGLE = 1 << FIELD;
         private static final int PAIR = 1 << 2 * FIELD;
         /** Scores are sixteenfold: below there is room to count carcasses that keep their CUTTING. */
         private static final int SCALE = 16;
@@ -1266,10 +1267,10 @@ public final class CutFloor {
         private final int[] bonuses = new int[ORDERS];
         private final int[] lowPlaces = new int[PAIR];
         private final int[] midPlaces = new int[PAIR];
-        private final int[] topPlaces = new int[PAIR];
+        private final int[] topPlaces = new int[SINGLE];
         private final int[] lowBonuses = new int[PAIR];
         private final int[] midBonuses = new int[PAIR];
-        private final int[] topBonuses = new int[PAIR];
+        private final int[] topBonuses = new int[SINGLE];
         private int ratedCount = 0;
         private int empty = 0;
         private int places = 1;
@@ -1281,12 +1282,13 @@ public final class CutFloor {
         }
 
         int placeOf(int filling) {
-            return lowPlaces[filling & PAIR - 1] + midPlaces[filling >>> 10 & PAIR - 1] + topPlaces[filling >>> 20 & PAIR - 1];
+            return lowPlaces[filling & PAIR - 1] + midPlaces[filling >>> 2 * FIELD & PAIR - 1]
+                    + topPlaces[filling >>> 4 * FIELD & SINGLE - 1];
         }
 
         int bonusOf(int filling) {
-            return lowBonuses[filling & PAIR - 1] + midBonuses[filling >>> 10 & PAIR - 1]
-                    + topBonuses[filling >>> 20 & PAIR - 1];
+            return lowBonuses[filling & PAIR - 1] + midBonuses[filling >>> 2 * FIELD & PAIR - 1]
+                    + topBonuses[filling >>> 4 * FIELD & SINGLE - 1];
         }
 
         void load(Hall hall, Cuttings[] cuttings) {
