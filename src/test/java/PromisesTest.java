@@ -1167,6 +1167,26 @@ public final class PromisesTest {
         due("a yield", y.drift(0, 0, 1), 7);
         due("a man", y.skills(0, 0), 5);
         for (int what = 0; what < 6; what++) due("a box", y.of(0, what), what == 3 ? 2 : 9);
+        CutFloor z = hall("cut 0 to 1 1");
+        z.put(1, 1, 4);
+        z.carcasses(0, 1);
+        due("one piece", z.best(0), 4);
+        z.image(0);
+        feedText(z, "cut 0 to 2 1");
+        z.tree();
+        due("two pieces", z.best(0), 8);
+        z.image(1);
+        z.back(0);
+        due("one piece", z.left(0, 1, 1), 1);
+        due("one piece", z.best(0), 4);
+        z.back(1);
+        due("two pieces", z.left(0, 1, 1), 2);
+        due("two pieces", z.best(0), 8);
+        feedText(z, "cut 0 to 3 1");
+        z.tree();
+        due("three pieces", z.best(0), 12);
+        z.back(0);
+        due("one piece", z.best(0), 4);
     }
 
     private static void counts() {
