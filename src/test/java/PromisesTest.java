@@ -1,61 +1,5 @@
 /** Each promise by hand: ordinary inputs, the edges that the document names, wrong inputs. */
-public final class PromisesTest {
-    private static final int NONE = -1;
-    private static final int NOTHING = -100_000;
-    private static final int MIN = Integer.MIN_VALUE;
-    private static final int MAX = Integer.MAX_VALUE;
-
-    private static int promise = 0;
-    private static int wrong = 0;
-    private static int asked = 0;
-
-    private static void due(String call, int got, int want) {
-        asked++;
-        if (got != want) {
-            wrong++;
-            System.out.println("promise " + promise + ": " + call + " answered " + got + ", due is " + want);
-        }
-    }
-
-    private static void feedText(CutFloor x, String text) {
-        StringBuilder padded = new StringBuilder(text);
-        while (padded.length() % 20 != 0) padded.append('?');
-        for (int at = 0; at < padded.length(); at += 20) {
-            int[] n = new int[5];
-            for (int i = 0; i < 20; i++) n[i / 4] = n[i / 4] << 8 | padded.charAt(at + i);
-            x.feed(n[0], n[1], n[2], n[3], n[4]);
-        }
-        x.end(text.length());
-    }
-
-    private static CutFloor hall(String text) {
-        CutFloor x = new CutFloor();
-        feedText(x, text);
-        int clauses = x.tree();
-        if (clauses < 0) due("tree of \"" + text + "\" with fault at " + x.fault(), clauses, 1);
-        return x;
-    }
-
-    /** The text is refused with a fault at that place. */
-    private static void faulty(String text, int at) {
-        CutFloor x = new CutFloor();
-        feedText(x, text);
-        due("tree of \"" + text + "\"", x.tree(), -6);
-        due("fault of \"" + text + "\"", x.fault(), at);
-        due("clauses of \"" + text + "\"", x.count(1), 0);
-    }
-
-    private static void readable(String text, int clauses) {
-        CutFloor x = new CutFloor();
-        feedText(x, text);
-        due("tree of \"" + text + "\"", x.tree(), clauses);
-        due("fault of \"" + text + "\"", x.fault(), NONE);
-    }
-
-    private static String times(String s, int n) {
-        return s.repeat(n);
-    }
-
+public final class PromisesTest extends Dues {
     private static void newObject() {
         CutFloor x = new CutFloor();
         due("NONE", CutFloor.NONE, -1);
@@ -148,7 +92,7 @@ public final class PromisesTest {
         due("fifth", x.man(0), -5);
         due("a number first", x.man(16), -1);
         due("count", x.count(3), 4);
-        promise = 6;
+        at("promise 6");
         for (int i = 0; i < 4; i++) due("skills", x.skills(i, 15 - i), i * 5);
         due("were", x.skills(3, 0), 12);
         due("16", x.skills(0, 16), -1);
@@ -182,7 +126,7 @@ public final class PromisesTest {
         due("full", x.feed(0, 0, 0, 0, 0), NONE);
         due("count", x.count(8), 400);
         due("status", x.status(), 0);
-        promise = 9;
+        at("promise 9");
         due("401", x.end(401), NONE);
         due("-1", x.end(-1), NONE);
         due("381", x.end(381), 381);
@@ -194,11 +138,11 @@ public final class PromisesTest {
         due("count", x.count(8), 6);
         due("status", x.status(), 0);
         due("refused", x.count(9), 0);
-        promise = 8;
+        at("promise 8");
         due("row", x.row(), 1);
         int[] want = {5, 100, 10, 3, 23, 255, 1};
         for (int what = 0; what < 7; what++) due("byte " + what, x.of(0, what), want[what]);
-        promise = 9;
+        at("promise 9");
         due("0", x.end(0), 0);
         due("empty", x.end(1), NONE);
     }
@@ -401,7 +345,7 @@ public final class PromisesTest {
         due("class 1", x.cuttings(1), 7);
         due("class 3", x.cuttings(3), NONE);
         due("class -1", x.cuttings(-1), NONE);
-        promise = 15;
+        at("promise 15");
         int[][] want = {{-1, -1, -1}, {0, -1, -1}, {0, 1, -1}, {0, 1, 4}, {0, 3, -1}, {2, -1, -1}, {2, -1, 4}};
         for (int i = 0; i < 7; i++) {
             for (int part = 0; part < 3; part++) due("choice " + i + " " + part, x.choice(1, i, part), want[i][part]);
@@ -413,7 +357,7 @@ public final class PromisesTest {
         due("part", x.choice(1, 0, -1), NOTHING);
         due("class", x.choice(3, 0, 0), NOTHING);
         due("class", x.choice(-1, 0, 0), NOTHING);
-        promise = 16;
+        at("promise 16");
         due("left", x.left(1, 0, 0), 1);
         due("cut", x.left(1, 1, 0), 0);
         due("two", x.left(1, 1, 1), 2);
@@ -426,26 +370,26 @@ public final class PromisesTest {
         due("part", x.left(1, 0, 10), NONE);
         due("part", x.left(1, 0, -1), NONE);
         due("class", x.left(3, 0, 0), NONE);
-        promise = 14;
+        at("promise 14");
         String six = "cut 0 to 1 1 and 1 2 and 1 3 and 1 4 and 1 5;cut 1 to 1 6;cut 2 to 1 7;cut 3 to 1 8;cut 4 to 1 9;cut 5 to 2 9";
         due("33", hall(six).cuttings(0), 33);
         CutFloor y = hall("cut 0 to 1 1 and 1 2 and 1 3 and 1 4 and 1 5 and 1 6;cut 1 to 1 7;cut 2 to 1 8;cut 3 to 1 9;cut 4 to 2 9;cut 5 to 3 9;cut 6 to 4 9 if class=1");
         due("33 of six", y.cuttings(0), 33);
         due("65", y.cuttings(1), 65);
-        promise = 15;
+        at("promise 15");
         due("too many", y.choice(1, 0, 0), NOTHING);
-        promise = 16;
+        at("promise 16");
         due("too many", y.left(1, 0, 0), NONE);
-        promise = 14;
+        at("promise 14");
         CutFloor z = hall(times("cut 0 to 1 1;", 7) + times("cut 1 to 1 2;", 8) + "cut 2 to 1 3 if day=1");
         due("64", z.cuttings(0), 64);
         z.terms(0, 1);
         due("more", z.cuttings(0), 65);
-        promise = 16;
+        at("promise 16");
         due("gone back", z.left(0, 0, 0), NONE);
         z.terms(0, 0);
         due("64th", z.left(0, 63, 2), 1);
-        promise = 14;
+        at("promise 14");
         due("200", hall("cut 0 to 8 1;cut 1 to 5 2;cut 2 to 5 3").cuttings(0), 4);
         due("201", hall("cut 0 to 8 1 and 1 9;cut 1 to 5 2;cut 2 to 5 3").cuttings(0), 3);
     }
@@ -468,17 +412,17 @@ public final class PromisesTest {
 
     private static void plans() {
         CutFloor x = shop();
-        promise = 17;
+        at("promise 17");
         due("brings", x.best(0), 34);
         due("plans", x.best(1), 2);
         due("what 2", x.best(2), NONE);
         due("what -1", x.best(-1), NONE);
-        promise = 18;
+        at("promise 18");
         due("plan 0", x.plan(0), 1);
         due("plan 1", x.plan(1), 2);
         due("plan 2", x.plan(2), NONE);
         due("plan -1", x.plan(-1), NONE);
-        promise = 19;
+        at("promise 19");
         due("made 1", x.made(1, 0), 2);
         due("lacks 1", x.made(1, 1), 1);
         due("made 3", x.made(3, 0), 6);
@@ -488,17 +432,17 @@ public final class PromisesTest {
         due("part -1", x.made(-1, 0), NONE);
         due("what 2", x.made(1, 2), NONE);
         due("what -1", x.made(1, -1), NONE);
-        promise = 20;
+        at("promise 20");
         due("value 0", x.value(0), 13);
         due("value 2", x.value(2), 13);
         due("value 3", x.value(3), NONE);
         due("value -1", x.value(-1), NONE);
-        promise = 21;
+        at("promise 21");
         due("shorts 0", x.shorts(0), 13);
         due("shorts 1", x.shorts(1), NOTHING);
         due("shorts 3", x.shorts(3), NOTHING);
         due("shorts -1", x.shorts(-1), NOTHING);
-        promise = 22;
+        at("promise 22");
         due("worth 1", x.worth(1), 8);
         due("worth 9", x.worth(9), 0);
         due("worth 0", x.worth(0), 0);
@@ -506,11 +450,11 @@ public final class PromisesTest {
         due("worth -1", x.worth(-1), NONE);
         due("nothing has changed", x.best(0), 34);
         due("nothing has changed", x.put(1, 2, 3), 3);
-        promise = 17;
+        at("promise 17");
         x.put(1, 0, 0);
         x.put(1, 1, 200);
         due("over brings more than price", x.best(0), 200 + 2);
-        promise = 22;
+        at("promise 22");
         due("worth below 0", x.worth(1), 26 - 202);
         noPlan();
         justSixtyFour();
@@ -520,49 +464,49 @@ public final class PromisesTest {
 
     private static void noPlan() {
         CutFloor x = crowded();
-        promise = 17;
+        at("promise 17");
         due("there are none of it", x.best(0), 0);
         x.carcasses(0, 1);
         due("nor now", x.best(1), 1);
-        promise = 20;
+        at("promise 20");
         due("with one of it there is no plan", x.value(1), NONE);
         due("of another there is", x.value(2), 0);
         x.carcasses(1, 1);
-        promise = 17;
+        at("promise 17");
         due("no plan", x.best(0), NONE);
         due("no plan", x.best(1), NONE);
-        promise = 18;
+        at("promise 18");
         due("no plan", x.plan(0), NONE);
-        promise = 19;
+        at("promise 19");
         due("no plan", x.made(0, 0), NONE);
-        promise = 20;
+        at("promise 20");
         due("no plan", x.value(0), NONE);
-        promise = 21;
+        at("promise 21");
         due("no plan", x.shorts(1), NOTHING);
         due("no plan", x.shorts(0), NOTHING);
-        promise = 22;
+        at("promise 22");
         due("no plan", x.worth(0), NONE);
-        promise = 23;
+        at("promise 23");
         due("no plan", x.change(1, 0), NONE);
-        promise = 25;
+        at("promise 25");
         for (int what = 0; what < 4; what++) due("no plan", x.given(what), NONE);
-        promise = 26;
+        at("promise 26");
         due("no plan", x.task(NONE), NONE);
         due("no plan", x.task(0), NONE);
-        promise = 27;
+        at("promise 27");
         due("no plan", x.share(NONE), NONE);
-        promise = 38;
+        at("promise 38");
         due("some day has no plan", x.week(1), -3);
         due("no week", x.came(0, 0), NONE);
         x.carcasses(1, 0);
         due("now there is", x.week(1), 0);
-        promise = 17;
+        at("promise 17");
         due("now there is", x.best(1), 1);
     }
 
     /** Sixty-four cuttings are a plan's, one more are not, in every class alike. */
     private static void justSixtyFour() {
-        promise = 17;
+        at("promise 17");
         for (int cls = 0; cls < 3; cls++) {
             CutFloor x = hall(times("cut 0 to 1 1;", 7) + times("cut 1 to 1 2;", 8) + "cut 2 to 1 3 if day=1");
             x.put(2, 1, 3);
@@ -582,7 +526,7 @@ public final class PromisesTest {
     }
 
     private static void counted() {
-        promise = 17;
+        at("promise 17");
         CutFloor x = hall(times("cut 0 to 1 1;", 15) + "skill 1");
         for (int n = 0; n <= 7; n++) {
             x.carcasses(0, n);
@@ -592,7 +536,7 @@ public final class PromisesTest {
         x.put(1, 2, 1);
         x.carcasses(0, 2);
         due("one of two at least", x.best(1), 256 - 1);
-        promise = 18;
+        at("promise 18");
         due("lowest", x.plan(0), 0);
         due("lowest", x.plan(1), 1);
         x.put(1, 2, 2);
@@ -602,9 +546,9 @@ public final class PromisesTest {
     private static void limits() {
         CutFloor x = hall("cut 0 to 1 1");
         x.carcasses(1, 8);
-        promise = 20;
+        at("promise 20");
         due("eight are there", x.value(0), NONE);
-        promise = 22;
+        at("promise 22");
         x.put(1, 0, 5);
         x.put(1, 2, 7);
         due("eighth", x.worth(1), 5);
@@ -613,11 +557,11 @@ public final class PromisesTest {
         for (int part = 2; part < 6; part++) x.put(part, 2, 1);
         due("a sixth order", x.worth(6), NONE);
         due("one of the five", x.worth(5), 0);
-        promise = 21;
+        at("promise 21");
         due("shorts", x.shorts(1), 5);
-        promise = 17;
+        at("promise 17");
         due("orders of all classes", x.best(0), 40);
-        promise = 19;
+        at("promise 19");
         due("made", x.made(1, 0), 8);
         due("lacks", x.made(5, 1), 1);
     }
@@ -665,14 +609,14 @@ public final class PromisesTest {
 
     private static void given() {
         CutFloor x = shop();
-        promise = 24;
+        at("promise 24");
         for (int i = 0; i < 8; i++) due("at first", x.give(i, 63), 0);
         for (int i = 0; i < 8; i++) due("was", x.give(i, 0), 63);
         due("carcass 8", x.give(8, 0), -1);
         due("carcass -1", x.give(-1, 0), -1);
         due("cutting 64", x.give(0, 64), -1);
         due("cutting -1", x.give(0, -1), -1);
-        promise = 25;
+        at("promise 25");
         due("brings", x.given(0), 0);
         due("less", x.given(1), 34);
         due("otherwise", x.given(2), 2);
@@ -686,9 +630,9 @@ public final class PromisesTest {
         x.give(1, 63);
         due("not there: 0", x.given(0), 21);
         due("not there: otherwise", x.given(2), 1);
-        promise = 24;
+        at("promise 24");
         due("kept as told", x.give(1, 1), 63);
-        promise = 25;
+        at("promise 25");
         due("two twos", x.given(0), 32);
         due("all have", x.given(3), 0);
         due("what 4", x.given(4), NONE);
@@ -701,13 +645,13 @@ public final class PromisesTest {
 
     private static void tasks() {
         CutFloor x = shop();
-        promise = 26;
+        at("promise 26");
         due("two carcasses", x.task(0), 10);
         due("two halves", x.task(1), 10);
         due("all", x.task(NONE), 20);
         due("way 2", x.task(2), NONE);
         due("way -2", x.task(-2), NONE);
-        promise = 27;
+        at("promise 27");
         due("nobody", x.share(NONE), NONE);
         x.man(1);
         due("nobody has skill 1", x.share(NONE), NONE);
@@ -733,10 +677,10 @@ public final class PromisesTest {
         x.put(1, 1, 5);
         x.carcasses(1, 1);
         x.carcasses(2, 2);
-        promise = 26;
+        at("promise 26");
         due("by their classes", x.task(0), 13 + 23 + 23);
         due("not gone", x.task(1), 0);
-        promise = 27;
+        at("promise 27");
         x.man(4);
         due("skill by the lowest class", x.share(0), NONE);
         x.man(2);
@@ -746,7 +690,7 @@ public final class PromisesTest {
         x.put(2, 1, 5);
         due("no minutes, but a task", x.share(1), 1);
         due("no minutes", x.share(NONE), 0);
-        promise = 26;
+        at("promise 26");
         due("no minutes", x.task(NONE), 0);
     }
 
@@ -758,9 +702,9 @@ public final class PromisesTest {
         x.carcasses(0, 1);
         x.man(1);
         x.man(1);
-        promise = 26;
+        at("promise 26");
         due("all", x.task(NONE), 12);
-        promise = 27;
+        at("promise 27");
         due("longest", x.share(NONE), 6);
         int[] men = {0, 0, 0, 1, 1, 1};
         for (int way = 0; way < 6; way++) due("man of " + way, x.share(way), men[way]);
@@ -770,10 +714,10 @@ public final class PromisesTest {
         y.man(15);
         y.carcasses(0, 1);
         due("nine tasks", y.share(NONE), 9);
-        promise = 26;
+        at("promise 26");
         due("way 1 is not gone", y.task(1), 0);
         due("way 9", y.task(9), 1);
-        promise = 27;
+        at("promise 27");
         CutFloor z = hall("cut 0 to 2 1;cut 1 to 1 2;cut 2 to 1 3;cut 3 to 1 4;cut 4 to 1 5;cut 5 to 1 6;cut 6 to 1 7;cut 7 to 1 8;cut 8 to 1 9;"
                 + "cut 0 to 1 9 and 1 5 and 1 9 if class=1;cut 5 to 1 8 if class=1;cut 5 to 2 9 if class=2;cut 0 to 9 5 if class=2");
         z.put(9, 1, 1);
@@ -783,9 +727,9 @@ public final class PromisesTest {
         z.carcasses(1, 1);
         due("ten", z.share(9), 0);
         z.carcasses(2, 1);
-        promise = 26;
+        at("promise 26");
         due("more than ten are told", z.task(11), 9);
-        promise = 27;
+        at("promise 27");
         due("more than ten", z.share(NONE), NONE);
         due("more than ten", z.share(0), NONE);
         // nine ways of class 0, one of class 1, one of class 2
@@ -799,13 +743,13 @@ public final class PromisesTest {
         e.carcasses(2, 1);
         due("just eleven", e.share(NONE), NONE);
         due("just eleven", e.share(0), NONE);
-        promise = 26;
+        at("promise 26");
         due("just eleven", e.task(NONE), 19);
         CutFloor s = hall(times("cut 0 to 1 1;", 15) + "cut 0 to 1 1");
         due("way 15", s.task(15), 0);
         due("way 16", s.task(16), NONE);
         due("way 17", s.task(17), NONE);
-        promise = 27;
+        at("promise 27");
         due("way 15", s.share(15), NONE);
         due("way 16", s.share(16), NONE);
         due("way 17", s.share(17), NONE);
@@ -813,21 +757,21 @@ public final class PromisesTest {
 
     private static void boxes() {
         CutFloor x = new CutFloor();
-        promise = 28;
+        at("promise 28");
         int[][] bad = {{0, 0, 0, 0, 0, 0}, {100, 0, 0, 0, 0, 0}, {1, -1, 0, 0, 0, 0}, {1, 101, 0, 0, 0, 0}, {1, 0, -1, 0, 0, 0},
             {1, 0, 100, 0, 0, 0}, {1, 0, 0, -1, 0, 0}, {1, 0, 0, 4, 0, 0}, {1, 0, 0, 0, -1, 0}, {1, 0, 0, 0, 24, 0},
             {1, 0, 0, 0, 0, -1}, {1, 0, 0, 0, 0, 256}};
         for (int[] b : bad) due("bad", x.box(b[0], b[1], b[2], b[3], b[4], b[5]), -1);
         due("least", x.box(1, 0, 0, 0, 0, 0), 0);
         due("most", x.box(99, 100, 99, 3, 23, 255), 1);
-        promise = 29;
+        at("promise 29");
         int[] want = {99, 100, 99, 3, 23, 255, 1};
         for (int what = 0; what < 7; what++) due("of " + what, x.of(1, what), want[what]);
         due("what 7", x.of(1, 7), NONE);
         due("what -1", x.of(1, -1), NONE);
         due("box 2", x.of(2, 0), NONE);
         due("box -1", x.of(-1, 0), NONE);
-        promise = 28;
+        at("promise 28");
         for (int i = 2; i < 16; i++) due("box", x.box(1, 1, 1, 1, 1, 1), i);
         due("no room", x.box(1, 1, 1, 1, 1, 1), -5);
         due("a number first", x.box(0, 1, 1, 1, 1, 1), -1);
@@ -837,12 +781,6 @@ public final class PromisesTest {
         due("there", x.count(4), 0);
     }
 
-    private static String bytes(int... numbers) {
-        StringBuilder b = new StringBuilder();
-        for (int n : numbers) b.append((char) n);
-        return b.toString();
-    }
-
     private static void rows() {
         CutFloor x = new CutFloor();
         due("empty", x.row(), -6);
@@ -850,27 +788,27 @@ public final class PromisesTest {
         feedText(x, bytes(1, 2, 3, 0, 5, 6, 0, 2, 3, 0, 5, 6, 99, 100, 99, 3, 23, 255, 1, 2, 3));
         due("came", x.row(), 2);
         due("tape", x.count(8), 0);
-        promise = 31;
+        at("promise 31");
         due("spoilt", x.spoilt(), 2);
-        promise = 30;
+        at("promise 30");
         due("of", x.of(1, 4), 23);
         due("there", x.of(1, 6), 1);
         due("empty", x.row(), -6);
-        promise = 31;
+        at("promise 31");
         due("stays", x.spoilt(), 2);
-        promise = 30;
+        at("promise 30");
         feedText(x, bytes(1, 101, 3, 0, 5, 6, 1, 2, 100, 0, 5, 6, 1, 2, 3, 4, 5, 6, 1, 2, 3, 0, 24, 6));
         due("none came", x.row(), 0);
-        promise = 31;
+        at("promise 31");
         due("all spoilt", x.spoilt(), 4);
-        promise = 30;
+        at("promise 30");
         for (int i = 2; i < 15; i++) x.box(1, 1, 1, 1, 1, 1);
         feedText(x, bytes(1, 2, 3, 0, 5, 6, 2, 2, 3, 0, 5, 6));
         due("room for one", x.row(), 1);
-        promise = 31;
+        at("promise 31");
         due("no room", x.spoilt(), 1);
         feedText(x, bytes(9));
-        promise = 30;
+        at("promise 30");
         due("tape ends within", x.row(), 0);
         due("not refused", x.status(), 0);
     }
@@ -950,7 +888,7 @@ public final class PromisesTest {
         due("on the day", x.send(16, 9, 0, 0), 1 << 4);
         due("least beyond most", x.send(16, 9, 9, 0), 0);
         due("last", x.send(1, 99, 97, 97), 1 << 3);
-        promise = 34;
+        at("promise 34");
         due("back", x.again(4), 0);
         due("there", x.of(4, 6), 1);
         due("it is there", x.again(4), -3);
@@ -989,20 +927,20 @@ public final class PromisesTest {
 
     private static void drift() {
         CutFloor x = new CutFloor();
-        promise = 36;
+        at("promise 36");
         due("1000", x.yields(1000, 0), -1);
         due("1000", x.yields(0, 1000), -1);
         due("-1", x.yields(-1, 0), -1);
         due("-1", x.yields(0, -1), -1);
-        promise = 37;
+        at("promise 37");
         due("none", x.drift(0, 0, 0), NONE);
         due("none", x.drift(0, 0, 1), 0);
-        promise = 36;
+        at("promise 36");
         due("first", x.yields(10, 9), 1);
         due("second", x.yields(10, 7), 2);
         due("third", x.yields(10, 12), 3);
         due("fourth", x.yields(999, 0), 4);
-        promise = 37;
+        at("promise 37");
         due("which", x.drift(0, 3, 0), 1);
         due("behind the first", x.drift(0, 0, 0), 0);
         due("above, not at", x.drift(0, 4, 0), 3);
@@ -1017,12 +955,12 @@ public final class PromisesTest {
         due("limit -1", x.drift(0, -1, 1), NONE);
         due("what 2", x.drift(0, 0, 2), NONE);
         due("what -1", x.drift(0, 0, -1), NONE);
-        promise = 36;
+        at("promise 36");
         for (int i = 5; i <= 40; i++) due("yields", x.yields(0, 999), i);
         due("no room", x.yields(0, 0), -5);
         due("a number first", x.yields(1000, 0), -1);
         due("count", x.count(6), 40);
-        promise = 37;
+        at("promise 37");
         due("of forty", x.drift(0, 0, 1), 1001);
     }
 
@@ -1030,11 +968,11 @@ public final class PromisesTest {
         CutFloor x = new CutFloor();
         x.carcasses(0, 2);
         x.put(0, 1, 7);
-        promise = 39;
+        at("promise 39");
         due("ahead of any", x.came(0, 0), NONE);
-        promise = 38;
+        at("promise 38");
         due("brings", x.week(5), 42);
-        promise = 39;
+        at("promise 39");
         due("came", x.came(0, 0), 1);
         due("came", x.came(2, 0), 2);
         due("none of it", x.came(0, 1), 0);
@@ -1042,12 +980,12 @@ public final class PromisesTest {
         due("day -1", x.came(-1, 0), NONE);
         due("class 3", x.came(0, 3), NONE);
         due("class -1", x.came(0, -1), NONE);
-        promise = 38;
+        at("promise 38");
         due("below", x.week(-1), -1);
         due("beyond", x.week(1_000_001), -1);
-        promise = 39;
+        at("promise 39");
         due("the latest stays", x.came(2, 0), 2);
-        promise = 38;
+        at("promise 38");
         // by hand: the draws of seed 1,000,000 with 2, 3, 1 carcasses
         x.carcasses(1, 3);
         x.carcasses(2, 1);
@@ -1066,18 +1004,18 @@ public final class PromisesTest {
             }
         }
         due("brings, orders anew each day", x.week(1_000_000), sum);
-        promise = 39;
+        at("promise 39");
         for (int i = 0; i < 15; i++) due("came " + i, x.came(i / 3, i % 3), came[i]);
-        promise = 38;
+        at("promise 38");
         due("nothing has changed", x.count(0), 6);
     }
 
     private static void images() {
         CutFloor x = shop();
-        promise = 40;
+        at("promise 40");
         due("2", x.image(2), -1);
         due("-1", x.image(-1), -1);
-        promise = 41;
+        at("promise 41");
         due("2", x.back(2), -1);
         due("-1", x.back(-1), -1);
         due("not kept", x.back(0), -2);
@@ -1089,7 +1027,7 @@ public final class PromisesTest {
         x.terms(0, 3);
         x.terms(1, 7);
         x.weighs(0, 0, 100);
-        promise = 40;
+        at("promise 40");
         due("kept", x.image(1), 0);
         due("best", x.best(0), 34);
         feedText(x, "cut 0 to 1 9");
@@ -1114,7 +1052,7 @@ public final class PromisesTest {
         feedText(x, "cut 5 to 1 5");
         x.tree();
         feedText(x, "skill");
-        promise = 41;
+        at("promise 41");
         int refused = x.count(13);
         int came = x.came(1, 0);
         due("back", x.back(1), 0);
@@ -1302,53 +1240,51 @@ public final class PromisesTest {
     }
 
     public static void main(String[] args) {
-        promise = 1;
+        at("promise 1");
         newObject();
-        promise = 2;
+        at("promise 2");
         carcasses();
-        promise = 3;
+        at("promise 3");
         weighs();
-        promise = 4;
+        at("promise 4");
         put();
-        promise = 5;
+        at("promise 5");
         men();
-        promise = 7;
+        at("promise 7");
         terms();
-        promise = 8;
+        at("promise 8");
         feedAndEnd();
-        promise = 10;
+        at("promise 10");
         trees();
-        promise = 11;
+        at("promise 11");
         faults();
-        promise = 12;
+        at("promise 12");
         ways();
-        promise = 13;
+        at("promise 13");
         goes();
-        promise = 14;
+        at("promise 14");
         cuttings();
-        promise = 17;
         plans();
-        promise = 23;
+        at("promise 23");
         change();
         given();
         tasks();
         boxes();
-        promise = 30;
+        at("promise 30");
         rows();
-        promise = 32;
+        at("promise 32");
         mixes();
-        promise = 33;
+        at("promise 33");
         send();
-        promise = 35;
+        at("promise 35");
         recall();
         drift();
         week();
         images();
-        promise = 42;
+        at("promise 42");
         counts();
-        promise = 43;
+        at("promise 43");
         status();
-        System.out.println(asked + " answers asked, " + wrong + " not as due");
-        if (wrong != 0) System.exit(1);
+        finish("places");
     }
 }

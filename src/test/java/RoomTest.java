@@ -2,23 +2,12 @@ import java.lang.management.ManagementFactory;
 import java.util.Random;
 
 /** What the dearest runs of calls make must stay far below the room that all calls of a run share. */
-public final class RoomTest {
+public final class RoomTest extends Dues {
     /** The room has 7.3 million fields and elements; here they are reckoned as four bytes each, headers and all. */
     private static final long MOST_BYTES = 4L * 2_500_000;
 
     private static final com.sun.management.ThreadMXBean THREADS =
             (com.sun.management.ThreadMXBean) ManagementFactory.getThreadMXBean();
-
-    private static void feedText(CutFloor x, String text) {
-        StringBuilder padded = new StringBuilder(text);
-        while (padded.length() % 20 != 0) padded.append(' ');
-        for (int at = 0; at < padded.length(); at += 20) {
-            int[] n = new int[5];
-            for (int i = 0; i < 20; i++) n[i / 4] = n[i / 4] << 8 | padded.charAt(at + i);
-            x.feed(n[0], n[1], n[2], n[3], n[4]);
-        }
-        x.end(text.length());
-    }
 
     private static final String DEAR = "cut 0 to 1 5;cut 0 to 2 2 and 2 3 and 1 1 and 1 1;cut 0 to 4 4 and 2 3 and 1 3 and 1 8;"
             + "cut 0 to 2 1 and 1 3 and 1 1 and 2 6;cut 1 to 1 7;cut 0 to 1 2 and 2 4;cut 2 to 1 9 and 2 4 and 2 4 and 1 3 and 1 5;"
