@@ -128,6 +128,61 @@ public final class BoundsOfTermsTest extends Dues {
         due("OVER of a sixth", x.put(8, 1, 9), 0);
         due("the first goes", x.put(0, 2, 0), 8);
         due("now another comes", x.put(8, 2, 1), 0);
+        due("PART 0 is one of them", x.put(0, 2, 1), -3);
+        fiveOrders();
+    }
+
+    /** Five ORDERS, each of another PRICE, and CUTTINGS that fill one or two of them. */
+    private static void fiveOrders() {
+        at("I: all of five ORDERS count");
+        CutFloor x = hall("cut 0 to 1 1;cut 0 to 1 3;cut 0 to 1 5;cut 0 to 1 7;cut 0 to 1 9;cut 0 to 1 7 and 1 9 if class=1");
+        int[] parts = {1, 3, 5, 7, 9};
+        for (int part = 0; part < 10; part++) x.put(part, 0, 100 + part);
+        for (int part : parts) x.put(part, 2, 1);
+        int[] brings = {0, 109, 216, 321, 424, 525, 525, 525, 525};
+        for (int n = 0; n <= 8; n++) {
+            x.carcasses(0, n);
+            due(n + " carcasses", x.best(0), brings[n]);
+        }
+        x.carcasses(0, 2);
+        due("the dearest two", x.plan(0) * 10 + x.plan(1), 45);
+        due("in two ways", x.best(1), 2);
+        x.put(9, 2, 2);
+        due("the fifth twice", x.best(0), 218);
+        due("the fifth twice", x.plan(0) * 10 + x.plan(1), 55);
+        due("WORTH of the fifth", x.worth(9), 0);
+        x.put(9, 2, 1);
+        due("WORTH of the fifth", x.worth(9), 109 - 107);
+        due("WORTH of the fourth", x.worth(7), 0);
+        x.carcasses(0, 0);
+        x.carcasses(1, 2);
+        due("two at once", x.best(0), 109 + 107 + 105);
+        x.put(5, 0, 0);
+        due("two at once", x.best(0), 109 + 107 + 103);
+        at("I: ORDERS of fewer PARTS than before");
+        x.put(1, 2, 0);
+        x.put(3, 2, 0);
+        due("three are left", x.best(0), 109 + 107);
+        x.put(7, 2, 0);
+        due("two are left", x.best(0), 109);
+        x.put(9, 2, 3);
+        due("of one three times", x.best(0), 218);
+        for (int part : parts) x.put(part, 2, 0);
+        due("none is left", x.best(0), 0);
+        x.put(9, 2, 1);
+        due("a PRICE that no ORDER wants brings nothing", x.best(0), 109);
+        for (int part : parts) x.put(part, 2, 8);
+        for (int part : parts) x.put(part, 1, 50);
+        x.carcasses(1, 0);
+        x.carcasses(0, 8);
+        due("eight of the fifth", x.best(0), 8 * 109);
+        x.put(9, 2, 7);
+        due("seven of it and one of the fourth", x.best(0), 7 * 109 + 107);
+        x.put(7, 0, 0);
+        due("seven of it and one of the third of 0 .. 0", x.best(0), 7 * 109 + 103);
+        x.put(1, 0, 0);
+        x.put(3, 0, 0);
+        due("OVER of the fifth", x.best(0), 7 * 109 + 50);
     }
 
     private static void men() {
@@ -318,6 +373,11 @@ public final class BoundsOfTermsTest extends Dues {
         readable("minutes " + times("1+", 24) + "1;skill " + times("1+", 22) + "1 if 1=1", 2);
         faulty("minutes " + times("1+", 24) + "1;skill " + times("1+", 23) + "1 if 1=1", 64 + 47 + 6);
         faulty("minutes " + times("1+", 24) + "1;skill " + times("1+", 25) + "1", 64 + 50);
+        at("II: 50 NUMBERS and words in SUMS: of each TREE anew");
+        CutFloor x = new CutFloor();
+        for (int i = 0; i < 3; i++) due("fifty", read(x, "minutes " + times("1+", 49) + "1"), 1);
+        due("fifty-one", read(x, "minutes " + times("1+", 50) + "1"), -6);
+        due("fifty", read(x, "minutes " + times("1+", 49) + "1"), 1);
         at("II: 50 NUMBERS and words in SUMS: PARTS and MANY are none of these");
         readable(times("cut 0 to 1 1;", 15) + "cut 0 to 1 1;minutes " + times("1+", 49) + "1", 17);
         at("II: all limits of a TREE at once");
@@ -543,6 +603,10 @@ public final class BoundsOfTermsTest extends Dues {
         due("the last that holds", minutes("7;minutes 8;minutes 9 if 1=2"), 8);
         due("none", minutes("7 if 1=2"), 1);
         due("not a skill", asked(";skill 3").goes(1, 2, 1), 1);
+        due("the first CLAUSE of all", hall("minutes 5;cut 0 to 1 1").goes(0, 0, 1), 5);
+        due("the last CLAUSE of all", hall("minutes 5;cut 0 to 1 1;minutes 6").goes(0, 0, 1), 6);
+        due("an earlier one is broken", minutes("1/0;minutes 7"), 7);
+        due("an earlier test is broken", minutes("3 if 1/0=0;minutes 7 if 1=1"), 7);
         at("II: SKILL likewise 0 .. 3");
         due("3", skill("3"), 3);
         due("4", skill("4"), 3);
@@ -554,6 +618,7 @@ public final class BoundsOfTermsTest extends Dues {
         due("broken", skill("2/0"), 0);
         due("no minutes", asked(";minutes 3").goes(1, 2, 2), 0);
         due("the last that holds", skill("2;skill 1;skill 3 if 1=2"), 1);
+        due("the first CLAUSE of all", hall("skill 2;cut 0 to 1 1").goes(0, 0, 2), 2);
     }
 
     private static void waste() {
@@ -667,6 +732,27 @@ public final class BoundsOfTermsTest extends Dues {
     }
 
     private static void plans() {
+        at("III: a CUTTING of its CLASS for each carcass");
+        CutFloor own = hall("cut 0 to 1 1 if class=0;cut 0 to 1 2 if class=1;cut 0 to 1 3 if class=2;cut 0 to 1 4 if class=2");
+        for (int part = 1; part < 5; part++) own.put(part, 1, part * part);
+        for (int cls = 0; cls < 3; cls++) due("one more of " + cls, own.value(cls), new int[] {1, 4, 16}[cls]);
+        own.carcasses(0, 1);
+        for (int cls = 0; cls < 3; cls++) due("one more of " + cls, own.value(cls), new int[] {1, 4, 16}[cls]);
+        own.carcasses(1, 2);
+        own.carcasses(2, 3);
+        due("all bring", own.best(0), 1 + 2 * 4 + 3 * 16);
+        for (int cls = 0; cls < 3; cls++) {
+            due("one more of " + cls, own.value(cls), new int[] {1, 4, 16}[cls]);
+            due("one fewer of " + cls, own.shorts(cls), new int[] {1, 4, 16}[cls]);
+            due("the others", own.change(cls, 1), 57 - new int[] {1, 4, 16}[cls]);
+            due("the others stay", own.change(cls, 0), 0);
+        }
+        due("of class 0", own.plan(0), 1);
+        due("of class 1", own.plan(1) * 10 + own.plan(2), 11);
+        due("of class 2", own.plan(3) * 10 + own.plan(5), 22);
+        due("choice of class 1", own.choice(1, 1, 0), 1);
+        due("choice of class 2", own.choice(2, 2, 0), 3);
+        due("left of class 2", own.left(2, 2, 4), 1);
         at("III: those of CLASS 0 first");
         CutFloor x = hall("cut 0 to 1 1 if class=0;cut 0 to 1 1 if class=1;cut 0 to 1 1 if class=2;cut 0 to 1 2 if class=2");
         x.put(1, 1, 1);
@@ -686,6 +772,8 @@ public final class BoundsOfTermsTest extends Dues {
         due("eight are wanted", wholes(8, 10, 1, 8).best(0), 80);
         due("the dearest", wholes(8, 999, 999, 4).best(0), 8 * 999);
         due("PRICE below OVER", wholes(3, 1, 10, 2).best(0), 12);
+        at("III: how many PLANS bring most, where what is over counts too");
+        bruteForce();
         at("III: the dearest PLAN of all");
         CutFloor y = hall("cut 0 to 8 1;cut 1 to 5 2;cut 2 to 5 3");
         y.put(3, 0, 999);
@@ -713,6 +801,53 @@ public final class BoundsOfTermsTest extends Dues {
         due("once the first is enough", z.plan(0) * 100 + z.plan(1) * 10 + z.plan(2), 111);
         z.put(1, 1, 3);
         due("then only one of them", z.plan(0) * 100 + z.plan(1) * 10 + z.plan(2), 122);
+    }
+
+    /** Three carcasses with 0, 1, 2 or 3 of PART 1, and one of PART 2 with it: all PLANS are gone through here. */
+    private static void bruteForce() {
+        CutFloor x = hall("cut 0 to 1 1 and 1 2;cut 0 to 2 1;cut 0 to 3 1 and 1 2");
+        int[] ones = {0, 1, 2, 3};
+        int[] twos = {0, 1, 0, 1};
+        x.carcasses(0, 3);
+        x.put(0, 1, 4);
+        x.put(2, 1, 3);
+        x.put(2, 0, 9);
+        for (int order = 0; order <= 8; order++) {
+            for (int over = 0; over < 4; over++) {
+                for (int twosWanted = 0; twosWanted < 3; twosWanted++) {
+                    x.put(1, 0, 3);
+                    x.put(1, 1, over);
+                    x.put(1, 2, order);
+                    x.put(2, 2, twosWanted);
+                    int most = -1;
+                    int plans = 0;
+                    int first = 0;
+                    for (int plan = 0; plan < 64; plan++) {
+                        int[] row = {plan / 16, plan / 4 % 4, plan % 4};
+                        int wholes = 0;
+                        int n = 0;
+                        int m = 0;
+                        for (int cutting : row) {
+                            wholes += cutting == 0 ? 1 : 0;
+                            n += ones[cutting];
+                            m += twos[cutting];
+                        }
+                        int brings = 4 * wholes + 3 * Math.min(n, order) + over * Math.max(0, n - order)
+                                + 9 * Math.min(m, twosWanted) + 3 * Math.max(0, m - twosWanted);
+                        if (brings > most) {
+                            plans = 0;
+                            first = row[0] * 100 + row[1] * 10 + row[2];
+                        }
+                        if (brings >= most) plans++;
+                        most = Math.max(most, brings);
+                    }
+                    String which = "ORDER " + order + ", OVER " + over + ", " + twosWanted + " of 2";
+                    due("BEST by " + which, x.best(0), most);
+                    due("PLANS by " + which, x.best(1), plans);
+                    due("FIRST by " + which, x.plan(0) * 100 + x.plan(1) * 10 + x.plan(2), first);
+                }
+            }
+        }
     }
 
     /** 50, 40 and 5 CUTTINGS: three, two and one of them have a thousand millions of PLANS. */
@@ -767,6 +902,22 @@ public final class BoundsOfTermsTest extends Dues {
         y.put(0, 0, 0);
         due("below 0", y.worth(0), -1);
         due("a PART that never comes", y.worth(9), 0);
+        at("III: WORTH up to as many as there can be");
+        CutFloor z = hall("cut 0 to 4 1 and 1 2");
+        z.put(1, 0, 5);
+        z.put(2, 0, 7);
+        z.put(2, 2, 1);
+        z.carcasses(0, 1);
+        z.carcasses(2, 1);
+        for (int order = 0; order < 8; order++) {
+            z.put(1, 2, order);
+            due("of ORDER " + order, z.worth(1), 5);
+        }
+        z.carcasses(2, 0);
+        for (int order = 0; order < 8; order++) {
+            z.put(1, 2, order);
+            due("of ORDER " + order, z.worth(1), order < 4 ? 5 : 0);
+        }
     }
 
     private static void change() {
@@ -845,6 +996,12 @@ public final class BoundsOfTermsTest extends Dues {
         x.give(7, 2);
         x.carcasses(0, 8);
         due("the eighth", x.given(0), 6 * 100 + 14);
+        x.put(0, 0, 1000 - 1);
+        x.put(0, 2, 4);
+        due("four at their PRICE, two OVER", x.given(0), 4 * 999 + 2 * 100 + 14);
+        due("none is wanting", x.given(3), 0);
+        x.put(0, 2, 8);
+        due("two carcasses are wanting", x.given(3), 2);
         CutFloor y = hall(justSixtyFour());
         y.carcasses(0, 1);
         y.put(2, 1, 7);
@@ -1001,6 +1158,10 @@ public final class BoundsOfTermsTest extends Dues {
         due("the mean is 7 and a half", y.mix(1584, 1584, 8, 2), 0);
         due("away", y.mix(1584, 1584, 7, 0), 99 * 120 - 7 * 1584);
         due("one of them", y.mix(99, 99, 15, 1), 1 << 15);
+        due("each one", y.mix(99, 99, 0, 2), 16);
+        due("any two", y.mix(198, 198, 0, 2), 120);
+        due("any one or two", y.mix(1, 198, 0, 2), 136);
+        due("all but one or none", y.mix(1485, 1584, 0, 2), 17);
         due("every one", y.mix(1, 1584, 0, 2), 65535);
     }
 
