@@ -1530,7 +1530,8 @@ public final class CutFloor {
         }
 
         private static int together(int before, int ways, int times) {
-            return (int) Math.min((long) MOST_COUNTED, before + (long) ways * times);
+            long all = before + (long) ways * times;
+            return all < MOST_COUNTED ? (int) all : MOST_COUNTED;
         }
 
         private void grow() {

@@ -169,6 +169,12 @@ public final class AskedAgainTest extends Dues {
         due("task", x.task(1), 1);
         read(x, "cut 0 to 1");
         due("a bad one changes nothing", x.best(0), 4);
+        for (int i = 0; i < 3; i++) read(x, "minutes 9;minutes 9;skill 3;minutes 9;skill 3;cut 0 to 1 1");
+        for (int i = 0; i < 3; i++) {
+            read(x, "cut 0 to 1 1");
+            due("no minutes", x.goes(0, 0, 1), 1);
+            due("no skill", x.goes(0, 0, 2), 0);
+        }
         at("10: tree: many of them one behind the other");
         for (int i = 0; i < 60; i++) {
             int minutes = i * 7 % 60;
@@ -286,8 +292,7 @@ public final class AskedAgainTest extends Dues {
         due("the second", x.drift(0, 6, 0), 1);
     }
 
-    private static void between() {
-        at("17 .. 27: whatever else is asked between");
+    private static CutFloor rich() {
         CutFloor x = hall("cut 0 to 1 1 if class=0;cut 0 to 1 2;cut 0 to 1 3;cut 1 to 2 4");
         int[] prices = {0, 5, 9, 4, 3};
         for (int part = 1; part < 5; part++) {
@@ -298,6 +303,12 @@ public final class AskedAgainTest extends Dues {
         x.carcasses(0, 2);
         x.carcasses(1, 2);
         x.man(15);
+        return x;
+    }
+
+    private static void between() {
+        at("17 .. 27: whatever else is asked between");
+        CutFloor x = rich();
         int best = x.best(0);
         int plans = x.best(1);
         int[] first = {x.plan(0), x.plan(1), x.plan(2), x.plan(3)};
@@ -317,6 +328,32 @@ public final class AskedAgainTest extends Dues {
             due("change", x.change(1, 0) * 1000 + x.change(1, 1), change);
             due("share", x.share(NONE), share);
             due("worth", x.worth(2), worth);
+        }
+        at("17 .. 27: whatever was asked ahead");
+        for (int ahead = 0; ahead < 64; ahead++) {
+            CutFloor y = rich();
+            if ((ahead & 1) != 0) y.best(0);
+            if ((ahead & 2) != 0) y.plan(0);
+            if ((ahead & 4) != 0) y.value(0);
+            if ((ahead & 8) != 0) y.shorts(1);
+            if ((ahead & 16) != 0) y.week(3);
+            if ((ahead & 32) != 0) y.worth(2);
+            due("others bring", y.change(1, 0) * 1000 + y.change(1, 1), change);
+            for (int i = 0; i < 4; i++) due("plan", y.plan(i), first[i]);
+            if ((ahead & 32) != 0) y.worth(1);
+            y.carcasses(1, 1);
+            CutFloor z = rich();
+            z.carcasses(1, 1);
+            for (int i = 0; i < 4; i++) due("plan of fewer", y.plan(i), z.plan(i));
+            due("best of fewer", y.best(0), z.best(0));
+            if ((ahead & 4) != 0) y.worth(3);
+            y.carcasses(0, 3);
+            z = rich();
+            z.carcasses(1, 1);
+            z.carcasses(0, 3);
+            for (int i = 0; i < 4; i++) due("plan of others", y.plan(i), z.plan(i));
+            due("best of others", y.best(0), z.best(0));
+            due("task of others", y.task(NONE), z.task(NONE));
         }
         // those of CLASS 1 bring 9 each; of CLASS 0 one brings 5, the other 3 twice
         due("best by hand", best, 9 + 9 + 6 + 5);

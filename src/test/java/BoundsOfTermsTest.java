@@ -515,6 +515,11 @@ public final class BoundsOfTermsTest extends Dues {
             due("on day " + dayAndMinutes[0], y.goes(1, 2, 1), dayAndMinutes[1]);
         }
         due("the other way's part weighs nothing", y.goes(0, 2, 1), 0);
+        due("less", can("1<2") * 100 + can("not 1<2") * 10 + can("not 2<1"), 101);
+        due("more", can("2>1") * 100 + can("not 2>1") * 10 + can("not 1>2"), 101);
+        due("as much", can("1=1") * 100 + can("not 1=1") * 10 + can("not 1=2"), 101);
+        due("neither less nor more", can("2<2") + can("2>2"), 0);
+        due("less and more", can("1<2 and 2>1 and not 2<1 and not 1>2"), 1);
         due("facts in a test", can("class=2 and part=3 and way=1 and day=9 and weight=50"), 1);
     }
 
@@ -918,6 +923,14 @@ public final class BoundsOfTermsTest extends Dues {
             z.put(1, 2, order);
             due("of ORDER " + order, z.worth(1), order < 4 ? 5 : 0);
         }
+        CutFloor three = hall("cut 0 to 3 1 if class=1");
+        three.put(1, 0, 5);
+        three.carcasses(0, 5);
+        three.carcasses(1, 3);
+        for (int order = 0; order < 8; order++) {
+            three.put(1, 2, order);
+            due("of ORDER " + order, three.worth(1), 5);
+        }
     }
 
     private static void change() {
@@ -991,6 +1004,7 @@ public final class BoundsOfTermsTest extends Dues {
         due("the most that can be told", x.given(0), 100);
         x.give(1, 2);
         due("a carcass that is not there", x.given(0), 100);
+        due("a carcass that is not there", x.given(2), 0);
         x.carcasses(0, 2);
         due("now it is there", x.given(0), 107);
         x.give(7, 2);
