@@ -71,7 +71,7 @@ public final class AnyCallTest extends Dues {
 
     private static void crowded(CutFloor x) {
         shop(x);
-        read(x, BoundsOfTermsTest.crowdedForOne());
+        read(x, crowdedForOne());
         x.carcasses(1, 1);
     }
 

@@ -5,20 +5,9 @@
 public final class BoundsOfPromisesTest extends Dues {
     private static final String FEW_WAYS = "cut 0 to 2 1 and 1 2;cut 1 to 3 3;minutes 5;skill 1 if way=1";
 
-    /** As the shared runs have it: BEST 34 by CUTTINGS 1 and 2; two TASKS. */
-    private static CutFloor shop() {
-        CutFloor x = hall(FEW_WAYS);
-        x.carcasses(0, 2);
-        x.put(1, 0, 10);
-        x.put(1, 2, 3);
-        x.put(3, 1, 2);
-        x.put(2, 1, 1);
-        return x;
-    }
-
     /** A carcass of CLASS 1 is there, which has more than 64 CUTTINGS, and one of CLASS 0, which has one. */
     private static CutFloor noPlan() {
-        CutFloor x = hall(BoundsOfTermsTest.crowdedForOne());
+        CutFloor x = hall(crowdedForOne());
         x.carcasses(0, 1);
         x.carcasses(1, 1);
         return x;
@@ -302,7 +291,7 @@ public final class BoundsOfPromisesTest extends Dues {
     }
 
     private static void cuttings() {
-        CutFloor x = hall(BoundsOfTermsTest.crowdedForOne());
+        CutFloor x = hall(crowdedForOne());
         CutFloor y = hall(FEW_WAYS);
         at("14: cuttings: 65 if there are more than 64");
         due("many more", x.cuttings(1), 65);
@@ -763,7 +752,7 @@ public final class BoundsOfPromisesTest extends Dues {
         refused(x, "extreme", x.week(MIN), -1, 5);
         due("the latest stays", x.came(2, 0), 2);
         at("38: week: -3 there is no PLAN on one of its DAYS");
-        CutFloor y = hall(BoundsOfTermsTest.crowdedForOne());
+        CutFloor y = hall(crowdedForOne());
         y.carcasses(0, 1);
         allowed(y, "none of CLASS 1", y.week(3), 0);
         int came = y.came(1, 0);

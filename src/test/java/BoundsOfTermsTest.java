@@ -673,17 +673,6 @@ public final class BoundsOfTermsTest extends Dues {
 
     // Terms III
 
-    /** CLASS 1 alone has more than 64 CUTTINGS. */
-    static String crowdedForOne() {
-        return "cut 0 to 1 1 and 1 2 and 1 3 and 1 4 and 1 5 and 1 6 if class=1;cut 1 to 1 7;cut 2 to 1 8;cut 3 to 1 9;"
-                + "cut 4 to 2 9;cut 5 to 3 9;cut 6 to 4 9";
-    }
-
-    /** 64 CUTTINGS: left, 7 WAYS, each with 1 left or cut by 8 WAYS; on DAY 1 there are more. */
-    private static String justSixtyFour() {
-        return times("cut 0 to 1 1;", 7) + times("cut 1 to 1 2;", 8) + "cut 2 to 1 3 if day=1";
-    }
-
     private static void cuttings() {
         at("III: whether all of these are left as they are, or cut by one WAY that can be gone");
         CutFloor x = hall("cut 0 to 2 1;cut 1 to 1 2;cut 1 to 1 3 if class=1");
@@ -925,7 +914,6 @@ public final class BoundsOfTermsTest extends Dues {
         }
         CutFloor three = hall("cut 0 to 3 1 if class=1");
         three.put(1, 0, 5);
-        three.carcasses(0, 5);
         three.carcasses(1, 3);
         for (int order = 0; order < 8; order++) {
             three.put(1, 2, order);

@@ -90,4 +90,26 @@ abstract class Dues {
         for (int n : numbers) b.append((char) n);
         return b.toString();
     }
+
+    /** Two carcasses; 1 is wanted three times at 10, what is beyond brings nothing; 3 brings 2 each, 2 one. */
+    static CutFloor shop() {
+        CutFloor x = hall("cut 0 to 2 1 and 1 2;cut 1 to 3 3;minutes 5;skill 1 if way=1");
+        x.carcasses(0, 2);
+        x.put(1, 0, 10);
+        x.put(1, 2, 3);
+        x.put(3, 1, 2);
+        x.put(2, 1, 1);
+        return x;
+    }
+
+    /** CLASS 1 alone has more than 64 CUTTINGS. */
+    static String crowdedForOne() {
+        return "cut 0 to 1 1 and 1 2 and 1 3 and 1 4 and 1 5 and 1 6 if class=1;cut 1 to 1 7;cut 2 to 1 8;cut 3 to 1 9;"
+                + "cut 4 to 2 9;cut 5 to 3 9;cut 6 to 4 9";
+    }
+
+    /** 64 CUTTINGS: left, 7 WAYS, each with 1 left or cut by 8 WAYS; on DAY 1 there are more. */
+    static String justSixtyFour() {
+        return times("cut 0 to 1 1;", 7) + times("cut 1 to 1 2;", 8) + "cut 2 to 1 3 if day=1";
+    }
 }

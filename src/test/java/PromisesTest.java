@@ -381,7 +381,7 @@ public final class PromisesTest extends Dues {
         at("promise 16");
         due("too many", y.left(1, 0, 0), NONE);
         at("promise 14");
-        CutFloor z = hall(times("cut 0 to 1 1;", 7) + times("cut 1 to 1 2;", 8) + "cut 2 to 1 3 if day=1");
+        CutFloor z = hall(justSixtyFour());
         due("64", z.cuttings(0), 64);
         z.terms(0, 1);
         due("more", z.cuttings(0), 65);
@@ -392,22 +392,6 @@ public final class PromisesTest extends Dues {
         at("promise 14");
         due("200", hall("cut 0 to 8 1;cut 1 to 5 2;cut 2 to 5 3").cuttings(0), 4);
         due("201", hall("cut 0 to 8 1 and 1 9;cut 1 to 5 2;cut 2 to 5 3").cuttings(0), 3);
-    }
-
-    /** Two carcasses; 1 is wanted three times at 10, what is beyond brings nothing; 3 brings 2 each, 2 one. */
-    private static CutFloor shop() {
-        CutFloor x = hall("cut 0 to 2 1 and 1 2;cut 1 to 3 3;minutes 5;skill 1 if way=1");
-        x.carcasses(0, 2);
-        x.put(1, 0, 10);
-        x.put(1, 2, 3);
-        x.put(3, 1, 2);
-        x.put(2, 1, 1);
-        return x;
-    }
-
-    /** Class 1 has more cuttings than can be told. */
-    private static CutFloor crowded() {
-        return hall("cut 0 to 1 1 and 1 2 and 1 3 and 1 4 and 1 5 and 1 6 if class=1;cut 1 to 1 7;cut 2 to 1 8;cut 3 to 1 9;cut 4 to 2 9;cut 5 to 3 9;cut 6 to 4 9");
     }
 
     private static void plans() {
@@ -457,13 +441,13 @@ public final class PromisesTest extends Dues {
         at("promise 22");
         due("worth below 0", x.worth(1), 26 - 202);
         noPlan();
-        justSixtyFour();
+        plansOfSixtyFour();
         counted();
         limits();
     }
 
     private static void noPlan() {
-        CutFloor x = crowded();
+        CutFloor x = hall(crowdedForOne());
         at("promise 17");
         due("there are none of it", x.best(0), 0);
         x.carcasses(0, 1);
@@ -505,10 +489,10 @@ public final class PromisesTest extends Dues {
     }
 
     /** Sixty-four cuttings are a plan's, one more are not, in every class alike. */
-    private static void justSixtyFour() {
+    private static void plansOfSixtyFour() {
         at("promise 17");
         for (int cls = 0; cls < 3; cls++) {
-            CutFloor x = hall(times("cut 0 to 1 1;", 7) + times("cut 1 to 1 2;", 8) + "cut 2 to 1 3 if day=1");
+            CutFloor x = hall(justSixtyFour());
             x.put(2, 1, 3);
             x.carcasses(cls, 2);
             due("64 cuttings", x.cuttings(cls), 64);
