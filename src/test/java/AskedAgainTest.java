@@ -176,7 +176,8 @@ public final class AskedAgainTest extends Dues {
             due("no skill", x.goes(0, 0, 2), 0);
         }
         at("10: tree: many of them one behind the other");
-        for (int i = 0; i < 60; i++) {
+        x = new CutFloor();
+        for (int i = 0; i < 40; i++) {
             int minutes = i * 7 % 60;
             due("tree " + i, read(x, "skill [[1+2]*3-1]/4;minutes 2*" + minutes + "-" + minutes + " if not (1>2 or 2>3 and 1=1);cut 0 to 1 1"), 3);
             due("minutes " + i, x.goes(0, 0, 1), minutes);

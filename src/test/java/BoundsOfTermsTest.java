@@ -799,14 +799,14 @@ public final class BoundsOfTermsTest extends Dues {
 
     /** Three carcasses with 0, 1, 2 or 3 of PART 1, and one of PART 2 with it: all PLANS are gone through here. */
     private static void bruteForce() {
-        CutFloor x = hall("cut 0 to 1 1 and 1 2;cut 0 to 2 1;cut 0 to 3 1 and 1 2");
         int[] ones = {0, 1, 2, 3};
         int[] twos = {0, 1, 0, 1};
-        x.carcasses(0, 3);
-        x.put(0, 1, 4);
-        x.put(2, 1, 3);
-        x.put(2, 0, 9);
         for (int order = 0; order <= 8; order++) {
+            CutFloor x = hall("cut 0 to 1 1 and 1 2;cut 0 to 2 1;cut 0 to 3 1 and 1 2");
+            x.carcasses(0, 3);
+            x.put(0, 1, 4);
+            x.put(2, 1, 3);
+            x.put(2, 0, 9);
             for (int over = 0; over < 4; over++) {
                 for (int twosWanted = 0; twosWanted < 3; twosWanted++) {
                     x.put(1, 0, 3);
@@ -1417,6 +1417,11 @@ public final class BoundsOfTermsTest extends Dues {
         due("but the CARCASSES", y.count(0), 0);
     }
 
+    private static void constants() {
+        at("The constants: NONE = -1");
+        due("NONE", CutFloor.NONE, -1);
+    }
+
     private static void lastCall() {
         at("What it is: at most 512 calls");
         CutFloor x = new CutFloor();
@@ -1465,6 +1470,7 @@ public final class BoundsOfTermsTest extends Dues {
         weeks();
         boxRows();
         images();
+        constants();
         lastCall();
         finish("sentences of the Terms");
     }
